@@ -1,4 +1,5 @@
 import java.util.ArrayList;
+import java.util.Arrays;
 import java.util.List;
 
 /** For each promise of the document: ordinary inputs, its edges, wrong inputs. */
@@ -425,6 +426,10 @@ public final class PromiseTest {
         }
         x.size(4, 4);
         due("bound(59)", x.bound(59), 191);
+        x.size(3, 1);
+        for (int w = 0; w < 3; w++) {
+            due("bound(" + w + ") of one letter", x.bound(w), w);
+        }
     }
 
     private static void great() {
@@ -455,6 +460,15 @@ public final class PromiseTest {
             due("great(-1) of " + m[0] + ", " + m[1], x.great(-1, 0), m[2]);
             due("great(-2) of " + m[0] + ", " + m[1], x.great(-2, 0), m[3]);
             due("great(-3) of " + m[0] + ", " + m[1], x.great(-3, 0), m[4]);
+        }
+        x.size(2, 2);
+        due("great(-1, 0) of 2, 2", x.great(-1, 0), 2);
+        x.size(3, 2);
+        due("great(-1, 0) of other letters", x.great(-1, 0), 6);
+        due("great(5, 2) of other letters", x.great(5, 2), 7);
+        x.size(3, 1);
+        for (int k = 0; k < 3; k++) {
+            due("great(0, " + k + ") of one letter", x.great(0, k), k);
         }
         // the first: ab ac ad bc bd and none of ring 5; the last: none of ring 0
         x.size(4, 2);
@@ -719,6 +733,16 @@ public final class PromiseTest {
         due("delay() of 64", made(4, 3).delay(), STATE);
         due("delay() of 81", made(3, 4, 0).delay(), STATE);
         due("delay() of 27", made(3, 3).delay(), 1);
+        // each found by going through all rows of letters
+        int[][] of32 = {{3, 24}, {4, 22}, {5, 3, 10}, {6, 1, 28}, {7, 2, 6, 18, 23}, {8, 10, 29}, {9, 5, 11, 19},
+            {10, 10, 16, 19, 24}, {11, 2, 3, 9, 26}, {12, 19, 20, 30}, {NOT, 1, 3, 10, 25, 30}, {NOT, 3, 5, 23, 28}};
+        for (int[] d : of32) {
+            int[] words = Arrays.copyOfRange(d, 1, d.length);
+            due("delay() of " + Arrays.toString(words), made(2, 5, words).delay(), d[0]);
+        }
+        due("delay() of 2 7 9", made(2, 4, 2, 7, 9).delay(), 10);
+        due("delay() of 1 11 16 18", made(3, 3, 1, 11, 16, 18).delay(), 7);
+        due("delay() of 1 8 11 12", made(4, 2, 1, 8, 11, 12).delay(), 3);
     }
 
     private static void odds() {
@@ -831,6 +855,8 @@ public final class PromiseTest {
             due("behind(" + f + ")", x.behind(f), NONE);
         }
         dueWords("behind all", x, 1, 2, 5);
+        due("behind(1) of a book that is not free", made(2, 3, 1, 4).behind(1), 0);
+        due("behind(1) of one letter", made(2, 1, 0, 1).behind(1), 1);
         CommaFreeBooks y = made(2, 3, 1);
         y.plan(0, 8);
         y.plan(1, 200);
