@@ -1,3 +1,5 @@
+import java.lang.reflect.Method;
+import java.lang.reflect.Modifier;
 import java.util.ArrayList;
 import java.util.Arrays;
 import java.util.HashMap;
@@ -624,88 +626,22 @@ public final class ModelTest {
         "delay", "odds", "plan", "behind", "feed", "book", "why", "write", "paper", "judge", "list", "put", "get",
         "image", "undo", "count"};
 
-    private static long ask(CommaFreeBooks x, int call, int[] a) {
-        switch (call) {
-            case 0: return x.size(a[0], a[1]);
-            case 1: return x.add(a[0]);
-            case 2: return x.drop(a[0]);
-            case 3: return x.clear();
-            case 4: return x.word(a[0]);
-            case 5: return x.letter(a[0], a[1]);
-            case 6: return x.hides(a[0], a[1], a[2]);
-            case 7: return x.clash(a[0]);
-            case 8: return x.may(a[0]);
-            case 9: return x.mays(a[0]);
-            case 10: return x.ring(a[0], a[1]);
-            case 11: return x.bound(a[0]);
-            case 12: return x.great(a[0], a[1]);
-            case 13: return x.swapped(a[0], a[1]);
-            case 14: return x.swap(a[0]);
-            case 15: return x.keeps(a[0]);
-            case 16: return x.cast(a[0]);
-            case 17: return x.spell(a[0]);
-            case 18: return x.tear(a[0]);
-            case 19: return x.possible(a[0]);
-            case 20: return x.certain(a[0]);
-            case 21: return x.delay();
-            case 22: return x.odds(a[0], a[1], a[2], a[3]);
-            case 23: return x.plan(a[0], a[1]);
-            case 24: return x.behind(a[0]);
-            case 25: return x.feed(a[0]);
-            case 26: return x.book();
-            case 27: return x.why(a[0]);
-            case 28: return x.write();
-            case 29: return x.paper(a[0]);
-            case 30: return x.judge(a[0]);
-            case 31: return x.list(a[0], a[1]);
-            case 32: return x.put(a[0], a[1], a[2]);
-            case 33: return x.get(a[0], a[1]);
-            case 34: return x.image();
-            case 35: return x.undo();
-            default: return x.count(a[0]);
+    private static final Method[] ASKED = new Method[NAMES.length];
+    private static final Method[] DUE = new Method[NAMES.length];
+
+    /** The face's methods, and those of the same names and arguments by which the model answers. */
+    private static void findMethods() throws NoSuchMethodException {
+        for (Method m : CommaFreeBooks.class.getDeclaredMethods()) {
+            int call = Arrays.asList(NAMES).indexOf(m.getName());
+            if (call >= 0 && Modifier.isPublic(m.getModifiers())) {
+                ASKED[call] = m;
+                DUE[call] = Model.class.getDeclaredMethod(m.getName(), m.getParameterTypes());
+            }
         }
     }
 
-    private static long due(Model x, int call, int[] a) {
-        switch (call) {
-            case 0: return x.size(a[0], a[1]);
-            case 1: return x.add(a[0]);
-            case 2: return x.drop(a[0]);
-            case 3: return x.clear();
-            case 4: return x.word(a[0]);
-            case 5: return x.letter(a[0], a[1]);
-            case 6: return x.hides(a[0], a[1], a[2]);
-            case 7: return x.clash(a[0]);
-            case 8: return x.may(a[0]);
-            case 9: return x.mays(a[0]);
-            case 10: return x.ring(a[0], a[1]);
-            case 11: return x.bound(a[0]);
-            case 12: return x.great(a[0], a[1]);
-            case 13: return x.swapped(a[0], a[1]);
-            case 14: return x.swap(a[0]);
-            case 15: return x.keeps(a[0]);
-            case 16: return x.cast(a[0]);
-            case 17: return x.spell(a[0]);
-            case 18: return x.tear(a[0]);
-            case 19: return x.possible(a[0]);
-            case 20: return x.certain(a[0]);
-            case 21: return x.delay();
-            case 22: return x.odds(a[0], a[1], a[2], a[3]);
-            case 23: return x.plan(a[0], a[1]);
-            case 24: return x.behind(a[0]);
-            case 25: return x.feed(a[0]);
-            case 26: return x.book();
-            case 27: return x.why(a[0]);
-            case 28: return x.write();
-            case 29: return x.paper(a[0]);
-            case 30: return x.judge(a[0]);
-            case 31: return x.list(a[0], a[1]);
-            case 32: return x.put(a[0], a[1], a[2]);
-            case 33: return x.get(a[0], a[1]);
-            case 34: return x.image();
-            case 35: return x.undo();
-            default: return x.count(a[0]);
-        }
+    private static long answer(Method method, Object x, int[] a) throws ReflectiveOperationException {
+        return ((Number) method.invoke(x, Arrays.stream(a).boxed().toArray())).longValue();
     }
 
     private static final class Run {
@@ -736,10 +672,10 @@ public final class ModelTest {
         }
 
         /** Whether the answers are the same. */
-        boolean same(int call, int... a) {
+        boolean same(int call, int... a) throws ReflectiveOperationException {
             calls++;
-            long want = due(model, call, a);
-            long got = ask(x, call, a);
+            long want = answer(DUE[call], model, a);
+            long got = answer(ASKED[call], x, a);
             told.append(NAMES[call]).append(Arrays.toString(a)).append(" = ").append(got).append("; ");
             if (want == OPEN || want == got) {
                 return true;
@@ -748,7 +684,7 @@ public final class ModelTest {
             return false;
         }
 
-        boolean aText() {
+        boolean aText() throws ReflectiveOperationException {
             StringBuilder b = new StringBuilder();
             int words = 1 + random.nextInt(6);
             for (int i = 0; i < words; i++) {
@@ -766,7 +702,7 @@ public final class ModelTest {
             return right && same(26) && same(27, random.nextInt(3));
         }
 
-        boolean aGreatBook() {
+        boolean aGreatBook() throws ReflectiveOperationException {
             if (model.size() > 32) {
                 return same(12, near(3), near(3));
             }
@@ -775,7 +711,7 @@ public final class ModelTest {
         }
 
         /** The book's words in a list, now and then one of them otherwise, and what is said of it. */
-        boolean aList() {
+        boolean aList() throws ReflectiveOperationException {
             int list = random.nextInt(4);
             int length = random.nextInt(13);
             boolean right = same(31, list, length);
@@ -787,7 +723,7 @@ public final class ModelTest {
             return right && same(30, list) && same(33, list, near(length));
         }
 
-        boolean aFreeBook() {
+        boolean aFreeBook() throws ReflectiveOperationException {
             boolean right = true;
             for (int i = 0; i < 5 && right; i++) {
                 long may = model.mays(-1);
@@ -798,7 +734,7 @@ public final class ModelTest {
             return right;
         }
 
-        boolean step() {
+        boolean step() throws ReflectiveOperationException {
             int words = model.book.size();
             int call = random.nextInt(NAMES.length + 7);
             switch (call) {
@@ -840,7 +776,7 @@ public final class ModelTest {
             }
         }
 
-        boolean goes() {
+        boolean goes() throws ReflectiveOperationException {
             if (!same(0, 2 + random.nextInt(3), 1 + random.nextInt(5))) {
                 return false;
             }
@@ -853,7 +789,8 @@ public final class ModelTest {
         }
     }
 
-    public static void main(String[] args) {
+    public static void main(String[] args) throws ReflectiveOperationException {
+        findMethods();
         int runs = args.length > 0 ? Integer.parseInt(args[0]) : RUNS;
         for (int seed = 1; seed <= runs; seed++) {
             Run run = new Run(seed);
