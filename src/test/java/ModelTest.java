@@ -671,8 +671,11 @@ public final class ModelTest {
             return near(model.size());
         }
 
-        /** Whether the answers are the same. */
+        /** Whether the answers are the same; what later calls than the last one answer is free. */
         boolean same(int call, int... a) throws ReflectiveOperationException {
+            if (calls == CALLS) {
+                return true;
+            }
             calls++;
             long want = answer(DUE[call], model, a);
             long got = answer(ASKED[call], x, a);

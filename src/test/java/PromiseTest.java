@@ -762,8 +762,8 @@ public final class PromiseTest {
         }
         for (int seed : new int[] {0, 1, -1, Integer.MAX_VALUE, Integer.MIN_VALUE, 123456789}) {
             for (int v = 1; v <= 12; v++) {
-                dueOdds(x, v, seed, 30);
-                dueOdds(x, v, seed, 1);
+                dueOdds(v, seed, 30);
+                dueOdds(v, seed, 1);
             }
         }
         due("odds of one letter above", made(2, 1).odds(12, 5, 30, 0), 1);
@@ -773,14 +773,15 @@ public final class PromiseTest {
     }
 
     /** By the calls add and clash, which promises of their own hold to the document. */
-    private static void dueOdds(CommaFreeBooks x, int v, int seed, int m) {
+    private static void dueOdds(int v, int seed, int m) {
+        CommaFreeBooks x = made(3, 2);
         int free = 0;
         for (int t = 0; t < m; t++) {
-            CommaFreeBooks y = made(x.count(0), x.count(1));
+            CommaFreeBooks y = made(3, 2);
             int z = seed + t;
             for (int i = 0; i < v; i++) {
                 z = z * 1103515245 + 12345;
-                y.add((z >>> 16) % x.count(2));
+                y.add((z >>> 16) % 9);
             }
             free += y.clash(0) == NOT ? 1 : 0;
         }
