@@ -109,9 +109,6 @@ public final class CommaFreeBooks {
     }
 
     public int mays(int i) {
-        if (i < -1) {
-            return NOT;
-        }
         int many = 0;
         // No word may come into a book that is not free, so that only free books are gone through.
         int end = now.book.isFree() ? now.alphabet.size : 0;
@@ -190,9 +187,6 @@ public final class CommaFreeBooks {
     }
 
     public int keeps(int i) {
-        if (i < -1) {
-            return NOT;
-        }
         int many = 0;
         int end = now.alphabet.swaps();
         for (int s = 0; s < end; s++) {

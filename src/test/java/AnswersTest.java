@@ -148,17 +148,6 @@ public final class AnswersTest extends Sentences {
         dueSame("all that is held behind " + call, readAll(x), readAll(state.get()));
     }
 
-    private void dueUnchangedByAsking(String call, Call asked) {
-        List<Supplier<CommaFreeBooks>> states = List.of(
-            AnswersTest::rich, AnswersTest::full, AnswersTest::large, AnswersTest::atFirst);
-        for (Supplier<CommaFreeBooks> state : states) {
-            CommaFreeBooks x = state.get();
-            long first = asked.of(x);
-            due(call + " asked again", asked.of(x), first);
-            dueSame("all that is held behind " + call, readAll(x), readAll(state.get()));
-        }
-    }
-
     // ---- what is refused
 
     private void refusedWords() {
@@ -252,34 +241,63 @@ public final class AnswersTest extends Sentences {
 
     // ---- what is asked
 
+    private record Asked(String name, Call call) {
+    }
+
+    private static final List<Asked> ASKED = List.of(
+        new Asked("word(0)", x -> x.word(0)),
+        new Asked("letter(1, 0)", x -> x.letter(1, 0)),
+        new Asked("hides(1, 1, 2)", x -> x.hides(1, 1, 2)),
+        new Asked("clash(0)", x -> x.clash(0)),
+        new Asked("may(5)", x -> x.may(5)),
+        new Asked("may(2)", x -> x.may(2)),
+        new Asked("mays(-1)", x -> x.mays(-1)),
+        new Asked("mays(0)", x -> x.mays(0)),
+        new Asked("ring(1, 2)", x -> x.ring(1, 2)),
+        new Asked("bound(0)", x -> x.bound(0)),
+        new Asked("great(-3, 0)", x -> x.great(-3, 0)),
+        new Asked("great(0, 0)", x -> x.great(0, 0)),
+        new Asked("swapped(3, 1)", x -> x.swapped(3, 1)),
+        new Asked("keeps(-1)", x -> x.keeps(-1)),
+        new Asked("keeps(0)", x -> x.keeps(0)),
+        new Asked("possible(3)", x -> x.possible(3)),
+        new Asked("certain(0)", x -> x.certain(0)),
+        new Asked("delay()", CommaFreeBooks::delay),
+        new Asked("odds(12, 5, 30, 0)", x -> x.odds(12, 5, 30, 0)),
+        new Asked("odds(1, 5, 7, 1)", x -> x.odds(1, 5, 7, 1)),
+        new Asked("behind(0)", x -> x.behind(0)),
+        new Asked("behind(2)", x -> x.behind(2)),
+        new Asked("why(0)", x -> x.why(0)),
+        new Asked("paper(0)", x -> x.paper(0)),
+        new Asked("judge(0)", x -> x.judge(0)),
+        new Asked("get(0, 0)", x -> x.get(0, 0)),
+        new Asked("count(8)", x -> x.count(8)));
+    private static final List<Supplier<CommaFreeBooks>> STATES = List.of(
+        AnswersTest::rich, AnswersTest::full, AnswersTest::large, AnswersTest::atFirst);
+
     private void asking() {
-        dueUnchangedByAsking("word(0)", x -> x.word(0));
-        dueUnchangedByAsking("letter(1, 0)", x -> x.letter(1, 0));
-        dueUnchangedByAsking("hides(1, 1, 2)", x -> x.hides(1, 1, 2));
-        dueUnchangedByAsking("clash(0)", x -> x.clash(0));
-        dueUnchangedByAsking("may(5)", x -> x.may(5));
-        dueUnchangedByAsking("may(2)", x -> x.may(2));
-        dueUnchangedByAsking("mays(-1)", x -> x.mays(-1));
-        dueUnchangedByAsking("mays(0)", x -> x.mays(0));
-        dueUnchangedByAsking("ring(1, 2)", x -> x.ring(1, 2));
-        dueUnchangedByAsking("bound(0)", x -> x.bound(0));
-        dueUnchangedByAsking("great(-3, 0)", x -> x.great(-3, 0));
-        dueUnchangedByAsking("great(0, 0)", x -> x.great(0, 0));
-        dueUnchangedByAsking("swapped(3, 1)", x -> x.swapped(3, 1));
-        dueUnchangedByAsking("keeps(-1)", x -> x.keeps(-1));
-        dueUnchangedByAsking("keeps(0)", x -> x.keeps(0));
-        dueUnchangedByAsking("possible(3)", x -> x.possible(3));
-        dueUnchangedByAsking("certain(0)", x -> x.certain(0));
-        dueUnchangedByAsking("delay()", x -> x.delay());
-        dueUnchangedByAsking("odds(12, 5, 30, 0)", x -> x.odds(12, 5, 30, 0));
-        dueUnchangedByAsking("odds(1, 5, 7, 1)", x -> x.odds(1, 5, 7, 1));
-        dueUnchangedByAsking("behind(0)", x -> x.behind(0));
-        dueUnchangedByAsking("behind(2)", x -> x.behind(2));
-        dueUnchangedByAsking("why(0)", x -> x.why(0));
-        dueUnchangedByAsking("paper(0)", x -> x.paper(0));
-        dueUnchangedByAsking("judge(0)", x -> x.judge(0));
-        dueUnchangedByAsking("get(0, 0)", x -> x.get(0, 0));
-        dueUnchangedByAsking("count(8)", x -> x.count(8));
+        for (Supplier<CommaFreeBooks> state : STATES) {
+            for (Asked asked : ASKED) {
+                CommaFreeBooks x = state.get();
+                long first = asked.call.of(x);
+                due(asked.name + " asked again", asked.call.of(x), first);
+                dueSame("all that is held behind " + asked.name, readAll(x), readAll(state.get()));
+            }
+        }
+    }
+
+    /** What is asked answers the same, whatever else was asked ahead of it. */
+    private void askingBehindAsking() {
+        for (Supplier<CommaFreeBooks> state : STATES) {
+            for (Asked asked : ASKED) {
+                long alone = asked.call.of(state.get());
+                for (Asked ahead : ASKED) {
+                    CommaFreeBooks x = state.get();
+                    ahead.call.of(x);
+                    due(asked.name + " behind " + ahead.name, asked.call.of(x), alone);
+                }
+            }
+        }
     }
 
     /** Behind write() all is as behind the like object's write(), and all but the paper as it was. */
@@ -404,6 +422,7 @@ public final class AnswersTest extends Sentences {
         });
         sentence("what is asked changes nothing but THE PAPER", () -> {
             asking();
+            askingBehindAsking();
             writing();
         });
         tapeIsEmpty();

@@ -360,6 +360,15 @@ public final class BoundaryTest extends Sentences {
             }
         });
         sentence("else the WORD that the i-th has of WHOLE RING k (NONE: none)", () -> {
+            CommaFreeBooks other = made(2, 2);
+            due("the last of 2 letters", other.great(1, 0), 2);
+            other.size(3, 2);
+            due("the last of 3 letters, of the same length", other.great(5, 2), 7);
+            other.size(3, 3);
+            due("the last of another length", other.great(41, 7), 23);
+            due("the first of another length", other.great(0, 5), 24);
+            other.size(2, 2);
+            due("the last of 2 letters again", other.great(1, 0), 2);
             CommaFreeBooks x = made(4, 2);
             due("the last ring of the first book", x.great(0, 5), NONE);
             due("the last but one of it", x.great(0, 4), 7);
@@ -880,18 +889,37 @@ public final class BoundaryTest extends Sentences {
             x.add(5);
             due("undo() once more", x.undo(), 1);
             dueWords("behind it", x, 1);
+            x.plan(0, 7);
+            x.image();
+            x.plan(-1, 0);
+            x.plan(1, 1);
+            due("undo() of a plan of other rows", x.undo(), 1);
+            due("behind(0) of the image's rows", x.behind(0), 2);
+            x.plan(-1, 0);
+            x.image();
             x.size(4, 4);
             x.add(255);
             due("undo() behind size", x.undo(), 1);
             dueCounts("behind it", x, 2, 3, 8, 1, 0, 0, 0, 0, 4);
             due("add(255) behind it", x.add(255), NONE);
             due("undo() with nothing to undo", x.undo(), 1);
+            dueOtherStrip();
             CommaFreeBooks none = made(2, 3);
             none.image();
             none.add(1);
             due("undo() of no words", none.undo(), 0);
             dueLargerImage();
         });
+    }
+
+    private void dueOtherStrip() {
+        CommaFreeBooks x = made(3, 3, 5);
+        cast(x, "abc");
+        x.image();
+        x.tear(3);
+        cast(x, "cab");
+        due("undo() of a strip of other letters", x.undo(), 1);
+        due("possible(3) of the image's letters", x.possible(3), 1);
     }
 
     private void dueLargerImage() {

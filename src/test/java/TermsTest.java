@@ -133,6 +133,8 @@ public final class TermsTest extends Sentences {
             due("abab in itself twice", made(2, 4, 5).clash(0), 5);
             due("aab alone", made(2, 3, 1).clash(0), NOT);
             due("aab abb", made(2, 3, 1, 3).clash(0), NOT);
+            due("acccc and cccca", made(3, 5, 80, 240).clash(0), 80);
+            due("dddc and ddcd", made(4, 4, 254, 251).clash(0), 251);
             for (int q = 2; q <= 4; q++) {
                 due("all words of one letter", filled(q, 1).clash(0), NOT);
             }
@@ -206,6 +208,8 @@ public final class TermsTest extends Sentences {
             due("one that hides none and is hidden by none", made(2, 3, 1).may(3), 1);
             due("any, when it is not free", made(2, 3, 0).may(3), 0);
             due("any that is there, when it is not free", made(2, 3, 0).may(0), 0);
+            due("one that hides by the last four letters there are", made(3, 5, 80).may(240), 0);
+            due("one that hides by the first four letters there are", made(3, 5, 240).may(80), 0);
             due("the last that there is", made(2, 1, 0).may(1), 1);
         });
     }
@@ -589,6 +593,8 @@ public final class TermsTest extends Sentences {
             dueFault("the last byte of a word", made(2, 3), "aac", 2);
             dueFault("right behind a word", made(2, 3), "aab,", 3);
             dueFault("the first of the next", made(2, 3), "aab c", 4);
+            dueFault("one below a, as the first", made(2, 3), "`ab", 0);
+            dueFault("one below a, as the last", made(2, 3), "ba`", 2);
             dueFault("the first of two wrong ones", made(2, 3), "aacc", 2);
             dueFault("the last of 60", made(2, 5), tenWords() + "a", 59);
         });
@@ -781,6 +787,7 @@ public final class TermsTest extends Sentences {
             x.size(2, 3);
             x.add(7);
             cast(x, "b");
+            x.plan(1, 7);
             told(x, "aabb");
             x.feed(97);
             x.write();
