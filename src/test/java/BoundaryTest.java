@@ -71,20 +71,32 @@ public final class BoundaryTest extends Sentences {
             due("cast(0) behind it", same.cast(0), 1);
             due("possible(1) behind it", same.possible(1), 5);
         });
-        sentence("BAD: q, n, SIZE would be above 256.", () -> {
+        sentence("BAD: q", () -> {
             CommaFreeBooks x = made(2, 3, 1);
             dueFor("size(q, 1)", q -> x.size(q, 1), BAD, 1, 0, -1, -2, -3, -4, 5, 6, 16, 256);
-            dueFor("size(2, n)", n -> x.size(2, n), BAD, 0, -1, -2, 6, 7, 8, 32);
             dueFor("size(1, n)", n -> x.size(1, n), BAD, 1, 3, 5);
             dueFor("size(-2, n)", n -> x.size(-2, n), BAD, 2, 4);
-            dueFor("size(3, n)", n -> x.size(3, n), BAD, 0, 6);
-            dueFor("size(4, n)", n -> x.size(4, n), BAD, 0, 5, 6);
-            due("size(5, 3)", x.size(5, 3), BAD);
-            due("size(16, 2)", x.size(16, 2), BAD);
+            due("size(5, 3), of which there would be 125", x.size(5, 3), BAD);
+            due("size(16, 2), of which there would be 256", x.size(16, 2), BAD);
             dueForFar("size(q, 1)", q -> x.size(q, 1), BAD);
+            dueCounts("behind all of these", x, 2, 3, 8, 1);
+        });
+        sentence("BAD: q, n", () -> {
+            CommaFreeBooks x = made(2, 3, 1);
+            dueFor("size(2, n)", n -> x.size(2, n), BAD, 0, -1, -2, 6, 7, 8, 32);
+            dueFor("size(3, n)", n -> x.size(3, n), BAD, 0, -1, 6);
+            dueFor("size(4, n)", n -> x.size(4, n), BAD, 0, -1, 6);
             dueForFar("size(2, n)", n -> x.size(2, n), BAD);
             dueForFar("size(q, q)", q -> x.size(q, q), BAD);
             dueCounts("behind all of these", x, 2, 3, 8, 1);
+        });
+        sentence("SIZE would be above 256", () -> {
+            CommaFreeBooks x = made(2, 3, 1);
+            due("size(4, 5), 1024", x.size(4, 5), BAD);
+            dueCounts("behind it", x, 2, 3, 8, 1);
+            due("size(4, 4), 256", x.size(4, 4), 256);
+            due("size(3, 5), 243", x.size(3, 5), 243);
+            due("size(2, 5), 32", x.size(2, 5), 32);
         });
     }
 
@@ -100,15 +112,22 @@ public final class BoundaryTest extends Sentences {
             dueWords("the last ahead of the first", made(2, 3, 7, 0), 0, 7);
             due("one by which it is not free", made(2, 3, 1).add(2), 2);
         });
-        sentence("NONE; STATE: it is in it.", () -> {
+        sentence("how many there are. NONE", () -> {
             CommaFreeBooks x = made(2, 3, 0, 7);
             dueFor("add", x::add, NONE, -1, 8, 9, 255, 256);
             dueForFar("add", x::add, NONE);
+            due("add(8) when all are there", filled(2, 3).add(8), NONE);
+            due("add(256) when all are there", filled(4, 4).add(256), NONE);
+            dueWords("behind these", x, 0, 7);
+        });
+        sentence("STATE: it is in it.", () -> {
+            CommaFreeBooks x = made(2, 3, 0, 7);
             due("add of the first", x.add(0), STATE);
             due("add of the last", x.add(7), STATE);
+            dueWords("behind these", x, 0, 7);
+            due("add of one between", x.add(3), 3);
             CommaFreeBooks all = filled(2, 3);
             dueFor("add when all are there", all::add, STATE, 0, 3, 7);
-            due("add(8) when all are there", all.add(8), NONE);
             due("count(3)", all.count(3), 8);
         });
     }
@@ -130,10 +149,16 @@ public final class BoundaryTest extends Sentences {
             due("word(241) then", all.word(241), 242);
             due("word(242) then", all.word(242), NOT);
         });
-        sentence("NONE; STATE: it is not in it.", () -> {
+        sentence("how many there are. NONE", () -> {
             CommaFreeBooks x = made(2, 3, 3);
             dueFor("drop", x::drop, NONE, -1, 8, 255, 256);
             dueForFar("drop", x::drop, NONE);
+            dueFor("drop of no words", made(2, 3)::drop, NONE, -1, 8);
+            dueFor("drop of all 256", filled(4, 4)::drop, NONE, -1, 256);
+            dueWords("behind these", x, 3);
+        });
+        sentence("STATE: it is not in it.", () -> {
+            CommaFreeBooks x = made(2, 3, 3);
             dueFor("drop", x::drop, STATE, 0, 2, 4, 7);
             due("drop(3)", x.drop(3), 0);
             due("drop(3) once more", x.drop(3), STATE);
@@ -188,10 +213,14 @@ public final class BoundaryTest extends Sentences {
             }
             due("of length 1", made(3, 1).letter(2, 0), 2);
         });
-        sentence("NONE: word, i.", () -> {
+        sentence("NONE: word", () -> {
             CommaFreeBooks x = made(2, 3);
             dueFor("letter(word, 0)", w -> x.letter(w, 0), NONE, -1, 8, 9, 256);
             dueForFar("letter(word, 0)", w -> x.letter(w, 0), NONE);
+            dueFor("letter(word, 3) of 256", w -> made(4, 4).letter(w, 3), NONE, -1, 256);
+        });
+        sentence("NONE: word, i.", () -> {
+            CommaFreeBooks x = made(2, 3);
             dueFor("letter(7, i)", i -> x.letter(7, i), NONE, -1, 3, 4, 5);
             dueForFar("letter(7, i)", i -> x.letter(7, i), NONE);
             due("letter(8, 3)", x.letter(8, 3), NONE);
@@ -201,21 +230,24 @@ public final class BoundaryTest extends Sentences {
 
     private void hides() {
         part("Promise 8");
-        sentence("The k (bits) at which w HIDES in u, v (any WORDS). NONE.", () -> {
+        sentence("The k (bits) at which w HIDES in u, v (any WORDS).", () -> {
             CommaFreeBooks x = made(2, 5);
             due("at all places, no word in THE BOOK", x.hides(0, 0, 0), 2 + 4 + 8 + 16);
             due("at the first alone", x.hides(1, 1, 2), 2);
             due("at the last alone", x.hides(1, 1, 16), 16);
             due("at none", x.hides(1, 1, 1), 0);
             due("in 0 and the last", x.hides(0, 31, 1), 2);
+            due("of the last word", x.hides(31, 31, 31), 30);
             due("of length 1", made(4, 1).hides(3, 3, 3), 0);
+        });
+        sentence("(any WORDS). NONE.", () -> {
+            CommaFreeBooks x = made(2, 5);
             dueFor("hides(u, 0, 0)", u -> x.hides(u, 0, 0), NONE, -1, 32, 256);
             dueFor("hides(0, v, 0)", v -> x.hides(0, v, 0), NONE, -1, 32, 256);
             dueFor("hides(0, 0, w)", w -> x.hides(0, 0, w), NONE, -1, 32, 256);
             dueForFar("hides(u, 0, 0)", u -> x.hides(u, 0, 0), NONE);
             dueForFar("hides(0, v, 0)", v -> x.hides(0, v, 0), NONE);
             dueForFar("hides(0, 0, w)", w -> x.hides(0, 0, w), NONE);
-            due("hides(31, 31, 31)", x.hides(31, 31, 31), 30);
         });
     }
 
@@ -228,13 +260,15 @@ public final class BoundaryTest extends Sentences {
             dueClash("of all 256", filled(4, 4), 0, 0, 1, 0);
             dueClash("of the last alone", made(4, 4, 27, 255), 27, 255, 3, 255);
         });
-        sentence("NONE: what; NOT: THE BOOK is FREE.", () -> {
+        sentence("NONE: what", () -> {
             CommaFreeBooks x = made(2, 3, 0);
             dueFor("clash", x::clash, NONE, -1, -2, 4, 5);
             dueForFar("clash", x::clash, NONE);
-            CommaFreeBooks free = made(2, 3, 1, 3);
-            dueFor("clash of a free one", free::clash, NOT, 0, 1, 2, 3);
-            dueFor("clash of a free one", free::clash, NONE, -1, 4);
+            dueFor("clash of a free one", made(2, 3, 1, 3)::clash, NONE, -1, 4);
+        });
+        sentence("NOT: THE BOOK is FREE.", () -> {
+            CommaFreeBooks x = made(2, 3, 0);
+            dueFor("clash of a free one", made(2, 3, 1, 3)::clash, NOT, 0, 1, 2, 3);
             dueFor("clash of no words", made(2, 3)::clash, NOT, 0, 1, 2, 3);
             dueFor("clash of all words of length 1", filled(4, 1)::clash, NOT, 0, 1, 2, 3);
             x.drop(0);
@@ -244,32 +278,38 @@ public final class BoundaryTest extends Sentences {
 
     private void may() {
         part("Promise 10");
-        sentence("Whether a WORD MAY come (1, 0). NONE.", () -> {
+        sentence("Whether a WORD MAY come (1, 0).", () -> {
             CommaFreeBooks x = made(2, 3);
             int[] may = {0, 1, 1, 1, 1, 1, 1, 0};
             for (int w = 0; w < 8; w++) {
                 due("may(" + w + ") of no words", x.may(w), may[w]);
             }
-            dueFor("may", x::may, NONE, -1, 8, 256);
-            dueForFar("may", x::may, NONE);
             dueFor("may of one that is there", filled(2, 1)::may, 0, 0, 1);
             dueFor("may when it is not free", made(2, 3, 7)::may, 0, 0, 1, 6, 7);
-            dueFor("may when it is not free", made(2, 3, 7)::may, NONE, -1, 8);
             due("may of the last of length 1", made(4, 1, 0, 1, 2).may(3), 1);
+        });
+        sentence("(1, 0). NONE.", () -> {
+            CommaFreeBooks x = made(2, 3);
+            dueFor("may", x::may, NONE, -1, 8, 256);
+            dueForFar("may", x::may, NONE);
+            dueFor("may when it is not free", made(2, 3, 7)::may, NONE, -1, 8);
+            dueFor("may of 256", made(4, 4)::may, NONE, -1, 256);
         });
     }
 
     private void mays() {
         part("Promise 11");
-        sentence("How many WORDS MAY come (i -1); the i-th of them, rising.", () -> {
-            CommaFreeBooks x = made(4, 4);
-            due("of no words", x.mays(-1), 240);
-            due("the first", x.mays(0), 1);
-            due("the last", x.mays(239), 254);
+        sentence("How many WORDS MAY come (i -1)", () -> {
+            due("of no words", made(4, 4).mays(-1), 240);
             due("none, when all are there", filled(4, 1).mays(-1), 0);
             due("none, when it is not free", made(2, 3, 0).mays(-1), 0);
+            due("three", made(4, 1, 1).mays(-1), 3);
+        });
+        sentence("the i-th of them, rising.", () -> {
+            CommaFreeBooks x = made(4, 4);
+            due("the first", x.mays(0), 1);
+            due("the last", x.mays(239), 254);
             CommaFreeBooks y = made(4, 1, 1);
-            due("three", y.mays(-1), 3);
             due("the first of three", y.mays(0), 0);
             due("the second of three", y.mays(1), 2);
             due("the third of three", y.mays(2), 3);
@@ -303,6 +343,12 @@ public final class BoundaryTest extends Sentences {
             CommaFreeBooks five = made(3, 5);
             dueRing(five, 242, 1, 242, NOT, 242);
             dueRing(five, 241, 5, 161, 47, 239);
+        });
+        sentence("2 the number of its RING (NOT: it isn't WHOLE)", () -> {
+            dueFor("ring(word, 2) of length 4", w -> made(2, 4).ring(w, 2), NOT, 0, 5, 10, 15);
+            dueFor("ring(word, 2) of length 5", w -> made(2, 5).ring(w, 2), NOT, 0, 31);
+            dueFor("ring(word, 2) of the first ring", w -> made(2, 4).ring(w, 2), 0, 1, 2, 4, 8);
+            dueFor("ring(word, 2) of the last ring", w -> made(2, 4).ring(w, 2), 2, 7, 11, 13, 14);
         });
         sentence("3 it TURNED. NONE.", () -> {
             CommaFreeBooks x = made(2, 3);
@@ -411,30 +457,35 @@ public final class BoundaryTest extends Sentences {
 
     private void swapped() {
         part("Promise 15");
-        sentence("A WORD SWAPPED. NONE: swap, word.", () -> {
+        sentence("A WORD SWAPPED.", () -> {
             CommaFreeBooks x = made(4, 4);
             due("by the first", x.swapped(0, 27), 27);
             due("by the second", x.swapped(1, 27), 228);
             due("by the last", x.swapped(47, 27), 27);
             due("the first word by the last", x.swapped(47, 0), 255);
             due("the last word by the last", x.swapped(47, 255), 0);
+            due("by the last of 2", made(2, 3).swapped(3, 1), 3);
+            due("by the last of 3", made(3, 2).swapped(11, 1), 5);
+        });
+        sentence("NONE: swap", () -> {
+            CommaFreeBooks x = made(4, 4);
             dueFor("swapped(swap, 0)", s -> x.swapped(s, 0), NONE, -1, 48, 49);
             dueForFar("swapped(swap, 0)", s -> x.swapped(s, 0), NONE);
+            dueFor("swapped(swap, 1) of 2", s -> made(2, 3).swapped(s, 1), NONE, -1, 4, 5, 47);
+            dueFor("swapped(swap, 1) of 3", s -> made(3, 2).swapped(s, 1), NONE, -1, 12, 47);
+        });
+        sentence("NONE: swap, word.", () -> {
+            CommaFreeBooks x = made(4, 4);
             dueFor("swapped(0, word)", w -> x.swapped(0, w), NONE, -1, 256);
             dueForFar("swapped(0, word)", w -> x.swapped(0, w), NONE);
-            CommaFreeBooks two = made(2, 3);
-            due("by the last of 2", two.swapped(3, 1), 3);
-            dueFor("swapped(swap, 1) of 2", s -> two.swapped(s, 1), NONE, -1, 4, 5, 47);
-            dueFor("swapped(0, word) of 8", w -> two.swapped(0, w), NONE, -1, 8);
-            CommaFreeBooks three = made(3, 2);
-            due("by the last of 3", three.swapped(11, 1), 5);
-            dueFor("swapped(swap, 1) of 3", s -> three.swapped(s, 1), NONE, -1, 12, 47);
+            dueFor("swapped(0, word) of 8", w -> made(2, 3).swapped(0, w), NONE, -1, 8);
+            dueFor("swapped(47, word)", w -> x.swapped(47, w), NONE, -1, 256);
         });
     }
 
     private void swap() {
         part("Promise 16");
-        sentence("THE BOOK is SWAPPED: how many WORDS. NONE.", () -> {
+        sentence("THE BOOK is SWAPPED: how many WORDS.", () -> {
             CommaFreeBooks x = made(4, 4, 0, 27);
             due("by the first", x.swap(0), 2);
             dueWords("as they were", x, 0, 27);
@@ -442,21 +493,24 @@ public final class BoundaryTest extends Sentences {
             dueWords("then", x, 27, 255);
             due("by one", x.swap(1), 2);
             dueWords("then", x, 228, 255);
-            dueFor("swap", x::swap, NONE, -1, 48, 49);
-            dueForFar("swap", x::swap, NONE);
-            dueWords("behind what is none", x, 228, 255);
             due("of no words", made(4, 4).swap(47), 0);
-            dueFor("swap of no words", made(4, 4)::swap, NONE, -1, 48);
             CommaFreeBooks all = filled(4, 4);
             due("of all", all.swap(23), 256);
             due("the last of all", all.word(255), 255);
-            dueFor("swap of 2 letters", made(2, 3, 1)::swap, NONE, -1, 4, 47);
-            dueFor("swap of 3 letters", made(3, 3, 1)::swap, NONE, -1, 12, 47);
             CommaFreeBooks free = made(2, 3, 1, 3);
             free.swap(2);
             due("a word that was there is not", free.drop(1), STATE);
             due("clash(0) of a free one", free.clash(0), NOT);
             due("mays(-1) of it", free.mays(-1), 0);
+        });
+        sentence("how many WORDS. NONE.", () -> {
+            CommaFreeBooks x = made(4, 4, 0, 27);
+            dueFor("swap", x::swap, NONE, -1, 48, 49);
+            dueForFar("swap", x::swap, NONE);
+            dueWords("behind these", x, 0, 27);
+            dueFor("swap of no words", made(4, 4)::swap, NONE, -1, 48);
+            dueFor("swap of 2 letters", made(2, 3, 1)::swap, NONE, -1, 4, 47);
+            dueFor("swap of 3 letters", made(3, 3, 1)::swap, NONE, -1, 12, 47);
         });
     }
 
@@ -488,16 +542,27 @@ public final class BoundaryTest extends Sentences {
 
     private void castAndSpell() {
         part("Promise 18");
-        sentence("A letter comes behind THE STRIP's: how many it has. BAD; FULL.", () -> {
+        sentence("A letter comes behind THE STRIP's: how many it has.", () -> {
             CommaFreeBooks x = made(3, 2, 1);
-            dueFor("cast", x::cast, BAD, -1, 3, 4, 97);
-            dueForFar("cast", x::cast, BAD);
             due("the first", x.cast(0), 1);
             due("the second", x.cast(1), 2);
             due("they stand in this order", x.possible(2), 1);
             for (int i = 3; i <= 40; i++) {
                 due("letter " + i, x.cast(i % 3), i);
             }
+        });
+        sentence("how many it has. BAD", () -> {
+            CommaFreeBooks x = made(3, 2, 1);
+            dueFor("cast", x::cast, BAD, -1, 3, 4, 97);
+            dueForFar("cast", x::cast, BAD);
+            dueFor("cast of 2 letters", made(2, 5)::cast, BAD, -1, 2);
+            dueFor("cast of 4 letters", made(4, 1)::cast, BAD, -1, 4);
+            due("count(4) behind these", x.count(4), 0);
+        });
+        sentence("BAD; FULL.", () -> {
+            CommaFreeBooks x = made(3, 2, 1);
+            cast(x, "a".repeat(39));
+            due("the last that has room", x.cast(0), 40);
             dueFor("cast of 40", x::cast, FULL, 0, 1, 2);
             dueFor("cast of 40", x::cast, BAD, -1, 3);
             due("count(4)", x.count(4), 40);
@@ -505,16 +570,27 @@ public final class BoundaryTest extends Sentences {
             due("when one has gone", x.cast(2), 40);
         });
         part("Promise 19");
-        sentence("All letters of a WORD come behind THE STRIP's: how many it has. NONE; FULL: not all have room (none comes).", () -> {
+        sentence("All letters of a WORD come behind THE STRIP's: how many it has.", () -> {
+            CommaFreeBooks x = made(4, 4, 27);
+            due("the first word", x.spell(27), 4);
+            due("all its letters, in order", x.possible(4), 1);
+            for (int i = 2; i <= 10; i++) {
+                due("word " + i, x.spell(27), 4 * i);
+            }
+            due("all their letters, in order", x.possible(40), 1);
+            due("of length 1", made(2, 1).spell(1), 1);
+            due("the last of length 5", made(3, 5).spell(242), 5);
+        });
+        sentence("how many it has. NONE", () -> {
             CommaFreeBooks x = made(4, 4, 27);
             dueFor("spell", x::spell, NONE, -1, 256, 257);
             dueForFar("spell", x::spell, NONE);
-            due("the first word", x.spell(27), 4);
-            due("all its letters, in order", x.possible(4), 1);
-            for (int i = 2; i <= 9; i++) {
-                due("word " + i, x.spell(27), 4 * i);
-            }
-            x.cast(0);
+            dueFor("spell of 8", made(2, 3)::spell, NONE, -1, 8);
+            due("count(4) behind these", x.count(4), 0);
+        });
+        sentence("FULL: not all have room (none comes).", () -> {
+            CommaFreeBooks x = made(4, 4, 27);
+            cast(x, "a".repeat(37));
             due("at 37", x.spell(27), FULL);
             due("at 37, no word", x.spell(256), NONE);
             due("none has come", x.count(4), 37);
@@ -533,44 +609,56 @@ public final class BoundaryTest extends Sentences {
 
     private void tearAndPossible() {
         part("Promise 20");
-        sentence("The first v letters of THE STRIP go: how many it has. BAD: v (0 .. as many as it has).", () -> {
+        sentence("The first v letters of THE STRIP go: how many it has.", () -> {
             CommaFreeBooks x = made(3, 3, 5);
             cast(x, "abcab");
-            dueFor("tear", x::tear, BAD, -1, 6, 7, 40, 41);
-            dueForFar("tear", x::tear, BAD);
             due("none", x.tear(0), 5);
             due("it stays", x.possible(5), 1);
             due("one", x.tear(1), 4);
             due("bcab is left", x.possible(4), 4);
-            due("one more than there are", x.tear(5), BAD);
             due("all but one", x.tear(3), 1);
             due("b is left", x.possible(1), 4);
             due("all", x.tear(1), 0);
             due("none of none", x.tear(0), 0);
-            due("one of none", x.tear(1), BAD);
+            due("a letter that comes then", x.cast(0), 1);
+            due("it is the first", x.possible(1), 1);
+        });
+        sentence("BAD: v (0 .. as many as it has).", () -> {
+            CommaFreeBooks x = made(3, 3, 5);
+            cast(x, "abcab");
+            dueFor("tear", x::tear, BAD, -1, 6, 7, 40, 41);
+            dueForFar("tear", x::tear, BAD);
+            due("count(4) behind these", x.count(4), 5);
+            dueFor("tear of none", made(3, 3)::tear, BAD, -1, 1);
             CommaFreeBooks y = made(2, 1);
             cast(y, "a".repeat(40));
             due("41 of 40", y.tear(41), BAD);
             due("40 of 40", y.tear(40), 0);
+            due("1 of none", y.tear(1), BAD);
         });
         part("Promise 21");
-        sentence("POSSIBLE OFFSETS (bits) for the first k letters of THE STRIP. BAD: k (0 .. as many as it has).", () -> {
+        sentence("POSSIBLE OFFSETS (bits) for the first k letters of THE STRIP.", () -> {
             CommaFreeBooks x = made(3, 3, 5);
             cast(x, "abca");
             int[] bits = {7, 1, 1, 1, 1};
             for (int k = 0; k <= 4; k++) {
                 due("possible(" + k + ")", x.possible(k), bits[k]);
             }
-            dueFor("possible", x::possible, BAD, -1, 5, 6, 40, 41);
-            dueForFar("possible", x::possible, BAD);
-            CommaFreeBooks none = made(2, 5);
-            due("possible(0) of no letters", none.possible(0), 31);
-            dueFor("possible of no letters", none::possible, BAD, -1, 1);
+            due("possible(0) of no letters", made(2, 5).possible(0), 31);
             CommaFreeBooks all = filled(2, 5);
             cast(all, "ab".repeat(20));
             due("possible(40) of all words", all.possible(40), 31);
-            due("possible(41) of 40 letters", all.possible(41), BAD);
             due("possible(40) of no words", cleared(all).possible(40), 0);
+        });
+        sentence("BAD: k (0 .. as many as it has).", () -> {
+            CommaFreeBooks x = made(3, 3, 5);
+            cast(x, "abca");
+            dueFor("possible", x::possible, BAD, -1, 5, 6, 40, 41);
+            dueForFar("possible", x::possible, BAD);
+            dueFor("possible of no letters", made(2, 5)::possible, BAD, -1, 1);
+            CommaFreeBooks y = made(2, 1);
+            cast(y, "a".repeat(40));
+            dueFor("possible of 40 letters", y::possible, BAD, -1, 41);
         });
     }
 
@@ -598,30 +686,36 @@ public final class BoundaryTest extends Sentences {
             cast(last, "b");
             due("the offset 4", last.certain(1), 4);
         });
-        sentence("NONE; NOT: it never is.", () -> {
+        sentence("1 the OFFSET. NONE", () -> {
             CommaFreeBooks x = made(2, 3, 1);
             dueFor("certain of no letters", x::certain, NONE, -1, -2, 2, 3);
             dueForFar("certain of no letters", x::certain, NONE);
+            cast(x, "aa");
+            dueFor("certain of one offset", x::certain, NONE, -1, 2);
+        });
+        sentence("NOT: it never is.", () -> {
+            CommaFreeBooks x = made(2, 3, 1);
             dueFor("certain of no letters", x::certain, NOT, 0, 1);
             cast(x, "a");
             dueFor("certain of two offsets", x::certain, NOT, 0, 1);
             cast(x, "a");
             due("certain(0) of one", x.certain(0), 2);
             due("certain(1) of one", x.certain(1), 0);
-            dueFor("certain of one", x::certain, NONE, -1, 2);
             CommaFreeBooks none = made(2, 3);
             cast(none, "ab");
             dueFor("certain of no words", none::certain, NOT, 0, 1);
         });
         part("Promise 23");
-        sentence("DELAY. STATE: SIZE is above 32; NOT: none of 1 .. 12.", () -> {
+        sentence("DELAY. STATE: SIZE is above 32", () -> {
             int[][] above = {{4, 3}, {3, 4}, {3, 5}, {4, 4}};
             for (int[] a : above) {
                 due("delay() of " + a[0] + ", " + a[1], made(a[0], a[1]).delay(), STATE);
                 due("delay() of it with a word", made(a[0], a[1], 0).delay(), STATE);
             }
-            due("delay() of 32", made(2, 5, 1).delay(), 4);
-            due("delay() of 27", made(3, 3, 0).delay(), NOT);
+            due("delay() of SIZE 32", made(2, 5, 1).delay(), 4);
+            due("delay() of SIZE 27", made(3, 3, 1).delay(), 2);
+        });
+        sentence("NOT: none of 1 .. 12.", () -> {
             due("delay() of 1", made(4, 2, 1).delay(), 1);
             due("delay() of 12", made(2, 5, 19, 20, 30).delay(), 12);
             due("delay() of 13", made(2, 5, 10, 12, 25, 30).delay(), NOT);
@@ -634,39 +728,59 @@ public final class BoundaryTest extends Sentences {
 
     private void odds() {
         part("Promise 24");
-        sentence("ODDS of v. NO: v, m, part.", () -> {
-            CommaFreeBooks x = made(2, 1);
+        CommaFreeBooks x = made(2, 1);
+        sentence("ODDS of v.", () -> {
+            dueForFar("odds(1, seed, 1, 0), any seed", seed -> x.odds(1, seed, 1, 0), 1);
+            dueForFar("odds(12, seed, 30, 1), any seed", seed -> x.odds(12, seed, 30, 1), 1);
+            due("odds(1, 0, 30, 0)", made(2, 2).odds(1, 0, 30, 0), 7);
+            due("odds(1, 0, 30, 1)", made(2, 2).odds(1, 0, 30, 1), 15);
+        });
+        sentence("NO: v", () -> {
             dueFor("odds(v, 0, 1, 0)", v -> x.odds(v, 0, 1, 0), 1, 1, 2, 11, 12);
             dueFor("odds(v, 0, 1, 0)", v -> x.odds(v, 0, 1, 0), NO, 0, -1, 13, 14);
             dueForFar("odds(v, 0, 1, 0)", v -> x.odds(v, 0, 1, 0), NO);
+        });
+        sentence("NO: v, m", () -> {
             dueFor("odds(1, 0, m, 0)", m -> x.odds(1, 0, m, 0), 1, 1, 2, 29, 30);
             dueFor("odds(1, 0, m, 0)", m -> x.odds(1, 0, m, 0), NO, 0, -1, 31, 32);
             dueForFar("odds(1, 0, m, 0)", m -> x.odds(1, 0, m, 0), NO);
+        });
+        sentence("NO: v, m, part.", () -> {
             dueFor("odds(1, 0, 1, part)", part -> x.odds(1, 0, 1, part), 1, 0, 1);
             dueFor("odds(1, 0, 1, part)", part -> x.odds(1, 0, 1, part), NO, -1, 2, 3);
             dueForFar("odds(1, 0, 1, part)", part -> x.odds(1, 0, 1, part), NO);
-            dueForFar("odds(1, seed, 1, 0)", seed -> x.odds(1, seed, 1, 0), 1);
         });
     }
 
     private void plan() {
         part("Promise 25");
-        sentence("A ROW comes to the PLAN: how many there are (what -1: it is empty then, 0, whatever the other is).", () -> {
+        sentence("A ROW comes to the PLAN: how many there are", () -> {
             CommaFreeBooks x = made(2, 3);
-            due("empty as it is", x.plan(-1, 0), 0);
             for (int i = 1; i <= 8; i++) {
                 due("row " + i, x.plan(0, i - 1), i);
             }
             due("behind(0) of 8 rows", x.behind(0), 8);
+        });
+        sentence("(what -1: it is empty then, 0, whatever the other is)", () -> {
+            CommaFreeBooks x = made(2, 3);
+            due("empty as it is", x.plan(-1, 0), 0);
+            for (int i = 0; i < 8; i++) {
+                x.plan(0, i);
+            }
             dueFor("plan(-1, v)", v -> x.plan(-1, v), 0, -1, 48, 256, MIN, MAX);
             due("count(7)", x.count(7), 0);
             due("behind(0)", x.behind(0), 0);
             due("the first again", x.plan(0, 0), 1);
         });
-        sentence("NONE: what; BAD: v (by 0, 1, 3 0 .. 255; by 2 0 .. 47); FULL.", () -> {
+        sentence("NONE: what", () -> {
             CommaFreeBooks x = made(2, 3);
             dueFor("plan(what, 0)", what -> x.plan(what, 0), NONE, -2, -3, 4, 5);
+            dueFor("plan(what, 256)", what -> x.plan(what, 256), NONE, -2, 4);
             dueForFar("plan(what, 0)", what -> x.plan(what, 0), NONE);
+            due("count(7) behind these", x.count(7), 0);
+        });
+        sentence("BAD: v (by 0, 1, 3 0 .. 255; by 2 0 .. 47)", () -> {
+            CommaFreeBooks x = made(2, 3);
             int[] ends = {256, 256, 48, 256};
             for (int what = 0; what <= 3; what++) {
                 int asked = what;
@@ -674,6 +788,12 @@ public final class BoundaryTest extends Sentences {
                 dueForFar("plan(" + what + ", v)", v -> x.plan(asked, v), BAD);
                 due("plan(" + what + ", 0)", x.plan(what, 0), 2 * what + 1);
                 due("plan(" + what + ", the last)", x.plan(what, ends[what] - 1), 2 * what + 2);
+            }
+        });
+        sentence("by 2 0 .. 47); FULL.", () -> {
+            CommaFreeBooks x = made(2, 3);
+            for (int i = 1; i <= 8; i++) {
+                due("plan(1, 7), row " + i, x.plan(1, 7), i);
             }
             dueFor("plan(what, 0) of 8", what -> x.plan(what, 0), FULL, 0, 1, 2, 3);
             dueFor("plan(what, 0) of 8", what -> x.plan(what, 0), NONE, -2, 4);
@@ -686,7 +806,7 @@ public final class BoundaryTest extends Sentences {
 
     private void behind() {
         part("Promise 26");
-        sentence("BEHIND the PLAN what 0 how many WORDS THE BOOK has, 1 whether it is FREE (1, 0), 2 its least WORD (NOT: it has none). NONE.", () -> {
+        sentence("BEHIND the PLAN what 0 how many WORDS THE BOOK has, 1 whether it is FREE (1, 0), 2 its least WORD (NOT: it has none).", () -> {
             CommaFreeBooks x = made(2, 3);
             dueBehind("no words, no rows", x, 0, 1, NOT);
             x.add(0);
@@ -697,10 +817,14 @@ public final class BoundaryTest extends Sentences {
             dueBehind("the last come", x, 1, 0, 7);
             x.plan(2, 2);
             dueBehind("and swapped", x, 1, 0, 0);
+            dueBehind("all 256 words", filled(4, 4), 256, 0, 0);
+        });
+        sentence("(NOT: it has none). NONE.", () -> {
+            CommaFreeBooks x = made(2, 3, 1);
+            x.plan(0, 3);
             dueFor("behind", x::behind, NONE, -1, -2, 3, 4);
             dueForFar("behind", x::behind, NONE);
             dueFor("behind of no words", made(2, 3)::behind, NONE, -1, 3);
-            dueBehind("all 256 words", filled(4, 4), 256, 0, 0);
         });
     }
 
@@ -714,15 +838,28 @@ public final class BoundaryTest extends Sentences {
 
     private void feedAndBook() {
         part("Promise 27");
-        sentence("A byte (1 .. 127) comes behind THE TAPE's: how many it has. BAD; FULL.", () -> {
+        sentence("A byte (1 .. 127) comes behind THE TAPE's: how many it has.", () -> {
             CommaFreeBooks x = new CommaFreeBooks();
-            dueFor("feed", x::feed, BAD, 0, -1, 128, 129, 255);
-            dueForFar("feed", x::feed, BAD);
             due("the least", x.feed(1), 1);
             due("the greatest", x.feed(127), 2);
             for (int i = 3; i <= 60; i++) {
                 due("byte " + i, x.feed(32), i);
             }
+            CommaFreeBooks y = made(2, 3);
+            feed(y, "aab");
+            due("in the order told", y.book(), 1);
+            dueWords("of them", y, 1);
+        });
+        sentence("how many it has. BAD", () -> {
+            CommaFreeBooks x = new CommaFreeBooks();
+            dueFor("feed", x::feed, BAD, 0, -1, 128, 129, 255);
+            dueForFar("feed", x::feed, BAD);
+            due("count(5) behind these", x.count(5), 0);
+        });
+        sentence("BAD; FULL.", () -> {
+            CommaFreeBooks x = new CommaFreeBooks();
+            feed(x, " ".repeat(59));
+            due("the last that has room", x.feed(97), 60);
             dueFor("feed of 60", x::feed, FULL, 1, 97, 127);
             dueFor("feed of 60", x::feed, BAD, 0, 128);
             due("count(5)", x.count(5), 60);
@@ -741,7 +878,7 @@ public final class BoundaryTest extends Sentences {
             due("may of one that was there", made(2, 1, 0).may(0), 0);
             due("all words of a length", told(made(4, 1), "d a c b"), 4);
         });
-        sentence("`int book()`: THE TAPE tells THE BOOK (in place of what it was): how many WORDS. -100 less the FAULT.", () -> {
+        sentence("-100 less the FAULT.", () -> {
             CommaFreeBooks x = made(2, 3, 0, 1, 2);
             due("no bytes", x.book(), -100);
             due("a fault at 1", told(x, "ac"), -101);
@@ -754,15 +891,26 @@ public final class BoundaryTest extends Sentences {
 
     private void whyAndPaper() {
         part("Promise 29");
-        sentence("WHY: REASON i. NONE: i, there is none.", () -> {
+        sentence("WHY: REASON i.", () -> {
             CommaFreeBooks x = made(2, 3);
-            dueFor("why at first", x::why, NONE, 0, 1, 2);
-            told(x, "aab a");
+            told(x, "aab aa");
             due("why(0)", x.why(0), 1);
-            due("why(1)", x.why(1), 1);
-            due("why(2)", x.why(2), 5);
+            due("why(1)", x.why(1), 2);
+            due("why(2)", x.why(2), 6);
+        });
+        sentence("NONE: i", () -> {
+            CommaFreeBooks x = made(2, 3);
+            told(x, "aab aa");
             dueFor("why", x::why, NONE, -1, -2, 3, 4);
             dueForFar("why", x::why, NONE);
+        });
+        sentence("NONE: i, there is none.", () -> {
+            CommaFreeBooks x = made(2, 3);
+            dueFor("why at first", x::why, NONE, 0, 1, 2, 3, -1);
+            told(x, "aab");
+            dueFor("why behind a book() without a fault", x::why, NONE, 0, 1, 2);
+            told(x, "");
+            dueFor("why behind no bytes", x::why, 0, 0, 1, 2);
         });
         part("Promise 30");
         sentence("THE PAPER becomes THE BOOK WRITTEN: how many bytes.", () -> {
@@ -773,13 +921,17 @@ public final class BoundaryTest extends Sentences {
             due("of all 243", filled(3, 5).write(), 1457);
         });
         part("Promise 31");
-        sentence("Byte i of THE PAPER. NONE.", () -> {
+        sentence("Byte i of THE PAPER.", () -> {
             CommaFreeBooks x = made(3, 2, 1, 8);
-            dueFor("paper of none", x::paper, NONE, 0, 1, -1);
             x.write();
             due("the first", x.paper(0), 'a');
             due("the blank", x.paper(2), ' ');
             due("the last", x.paper(4), 'c');
+        });
+        sentence("Byte i of THE PAPER. NONE.", () -> {
+            CommaFreeBooks x = made(3, 2, 1, 8);
+            dueFor("paper of none", x::paper, NONE, 0, 1, -1);
+            x.write();
             dueFor("paper", x::paper, NONE, -1, 5, 6);
             dueForFar("paper", x::paper, NONE);
             CommaFreeBooks all = filled(3, 5);
@@ -793,28 +945,49 @@ public final class BoundaryTest extends Sentences {
 
     private void judgeAndList() {
         part("Promise 32");
-        sentence("JUDGED. NONE; NOTHING.", () -> {
+        sentence("JUDGED.", () -> {
             CommaFreeBooks x = made(2, 3, 1);
-            dueFor("judge", x::judge, NONE, -1, 4, 5);
-            dueForFar("judge", x::judge, NONE);
-            dueFor("judge of nothing", x::judge, NOTHING, 0, 1, 2, 3);
             row(x, 0, 1);
             row(x, 3);
             due("judge of the first", x.judge(0), -5);
             due("judge of a row of none", x.judge(3), -5);
-            dueFor("judge of nothing", x::judge, NOTHING, 1, 2);
             row(x, 1, 1, -1, -1, -1, -1, -1, -1, -1, -1, -1, -1, 0);
             due("judge of the last of twelve", x.judge(1), 11);
         });
+        sentence("JUDGED. NONE", () -> {
+            CommaFreeBooks x = made(2, 3, 1);
+            dueFor("judge", x::judge, NONE, -1, 4, 5);
+            dueForFar("judge", x::judge, NONE);
+        });
+        sentence("NONE; NOTHING.", () -> {
+            CommaFreeBooks x = made(2, 3, 1);
+            dueFor("judge of nothing", x::judge, NOTHING, 0, 1, 2, 3);
+            row(x, 0, 1);
+            row(x, 3);
+            dueFor("judge of nothing still", x::judge, NOTHING, 1, 2);
+            dueFor("judge of something", x::judge, -5, 0, 3);
+        });
         part("Promise 33");
-        sentence("A LIST becomes a row of n ints, all 0: 1. NONE: list; BAD: n above 12; BELOW.", () -> {
+        sentence("NONE: list", () -> {
             CommaFreeBooks x = new CommaFreeBooks();
             dueFor("list(list, 1)", l -> x.list(l, 1), NONE, -1, 4, 5);
             dueForFar("list(list, 1)", l -> x.list(l, 1), NONE);
             dueFor("list(4, n)", n -> x.list(4, n), NONE, 13, -1);
+        });
+        sentence("BAD: n above 12", () -> {
+            CommaFreeBooks x = new CommaFreeBooks();
             dueFor("list(0, n)", n -> x.list(0, n), BAD, 13, 14, MAX);
+            due("judge(0) behind these", x.judge(0), NOTHING);
+            due("list(0, 12)", x.list(0, 12), 1);
+        });
+        sentence("BELOW.", () -> {
+            CommaFreeBooks x = new CommaFreeBooks();
             dueFor("list(0, n)", n -> x.list(0, n), BELOW, -1, -2, MIN);
             due("judge(0) behind these", x.judge(0), NOTHING);
+            due("list(0, 0)", x.list(0, 0), 1);
+        });
+        sentence("A LIST becomes a row of n ints, all 0: 1.", () -> {
+            CommaFreeBooks x = new CommaFreeBooks();
             dueFor("list(0, n)", n -> x.list(0, n), 1, 0, 1, 12);
             x.put(0, 0, 5);
             x.put(0, 11, 5);
@@ -828,18 +1001,33 @@ public final class BoundaryTest extends Sentences {
 
     private void putAndGet() {
         part("Promise 34");
-        sentence("Place i of a LIST becomes v: 1. NONE; NOTHING; BEYOND.", () -> {
+        sentence("becomes v: 1. NONE", () -> {
             CommaFreeBooks x = new CommaFreeBooks();
             dueFor("put(list, 0, 1)", l -> x.put(l, 0, 1), NONE, -1, 4);
             dueForFar("put(list, 0, 1)", l -> x.put(l, 0, 1), NONE);
             dueFor("put(4, i, 1)", i -> x.put(4, i, 1), NONE, -1, 12);
+        });
+        sentence("NONE; NOTHING; BEYOND.", () -> {
+            CommaFreeBooks x = new CommaFreeBooks();
             dueFor("put(0, i, 1) of nothing", i -> x.put(0, i, 1), NOTHING, -1, 0, 12, MIN, MAX);
+            dueFor("put(list, 0, 1) of nothing", l -> x.put(l, 0, 1), NOTHING, 0, 1, 2, 3);
+            due("get(0, 0) behind these", x.get(0, 0), NO);
+        });
+        sentence("BEYOND.", () -> {
+            CommaFreeBooks x = new CommaFreeBooks();
             x.list(0, 3);
-            x.list(1, 3);
             dueFor("put(0, i, 1) of three", i -> x.put(0, i, 1), BEYOND, -1, 3, 4, 11, 12);
             dueForFar("put(0, i, 1) of three", i -> x.put(0, i, 1), BEYOND);
+            x.list(1, 12);
+            dueFor("put(1, i, 1) of twelve", i -> x.put(1, i, 1), BEYOND, -1, 12);
             x.list(2, 0);
             dueFor("put(2, i, 1) of none", i -> x.put(2, i, 1), BEYOND, -1, 0);
+            due("get(0, 2) behind these", x.get(0, 2), 0);
+        });
+        sentence("Place i of a LIST becomes v: 1.", () -> {
+            CommaFreeBooks x = new CommaFreeBooks();
+            x.list(0, 3);
+            x.list(1, 3);
             dueFor("put(0, 2, v)", v -> x.put(0, 2, v), 1, 0, -1, MAX, MIN);
             due("put(0, 0, MAX)", x.put(0, 0, MAX), 1);
             due("get(0, 2)", x.get(0, 2), MIN);
@@ -847,15 +1035,36 @@ public final class BoundaryTest extends Sentences {
             due("get(1, 2), another list", x.get(1, 2), 0);
         });
         part("Promise 35");
-        sentence("Place i of a LIST. NO: no such LIST, nothing there, no such place.", () -> {
+        sentence("Place i of a LIST.", () -> {
             CommaFreeBooks x = new CommaFreeBooks();
-            dueFor("get(list, 0)", l -> x.get(l, 0), NO, -1, 4);
-            dueForFar("get(list, 0)", l -> x.get(l, 0), NO);
-            dueFor("get(0, i) of nothing", i -> x.get(0, i), NO, -1, 0, 1);
             row(x, 0, 7, 8);
-            row(x, 1, 9);
+            row(x, 3, MIN, 0, 0, 0, 0, 0, 0, 0, 0, 0, 0, MAX);
             due("the first", x.get(0, 0), 7);
             due("the last", x.get(0, 1), 8);
+            due("the first of twelve", x.get(3, 0), MIN);
+            due("the last of twelve", x.get(3, 11), MAX);
+        });
+        sentence("NO: no such LIST", () -> {
+            CommaFreeBooks x = new CommaFreeBooks();
+            row(x, 0, 7, 8);
+            row(x, 3, 7, 8);
+            dueFor("get(list, 0)", l -> x.get(l, 0), NO, -1, 4);
+            dueForFar("get(list, 0)", l -> x.get(l, 0), NO);
+        });
+        sentence("nothing there", () -> {
+            CommaFreeBooks x = new CommaFreeBooks();
+            row(x, 0, 7, 8);
+            for (int l = 1; l <= 3; l++) {
+                int list = l;
+                dueFor("get(" + l + ", i) of nothing", i -> x.get(list, i), NO, -1, 0, 1, 11);
+            }
+        });
+        sentence("no such place.", () -> {
+            CommaFreeBooks x = new CommaFreeBooks();
+            row(x, 0, 7, 8);
+            row(x, 1, 9);
+            row(x, 2);
+            dueFor("get(2, i) of none", i -> x.get(2, i), NO, -1, 0);
             dueFor("get(0, i) of two", i -> x.get(0, i), NO, -1, 2, 11, 12, -12);
             dueForFar("get(0, i) of two", i -> x.get(0, i), NO);
             dueFor("get(1, i) of one", i -> x.get(1, i), NO, -1, -12, -11, 1);
@@ -875,10 +1084,16 @@ public final class BoundaryTest extends Sentences {
             due("undo() is of the latest", x.undo(), 2);
         });
         part("Promise 37");
-        sentence("All is as THE IMAGE: how many WORDS THE BOOK has. STATE: there is none.", () -> {
+        sentence("STATE: there is none.", () -> {
             CommaFreeBooks x = made(2, 3, 1);
-            due("undo() without one", x.undo(), STATE);
+            due("undo()", x.undo(), STATE);
             due("count(3) behind it", x.count(3), 1);
+            due("undo() at first", new CommaFreeBooks().undo(), STATE);
+            x.image();
+            due("undo() when there is one", x.undo(), 1);
+        });
+        sentence("All is as THE IMAGE: how many WORDS THE BOOK has.", () -> {
+            CommaFreeBooks x = made(2, 3, 1);
             x.image();
             x.add(3);
             cast(x, "ab");
@@ -938,7 +1153,7 @@ public final class BoundaryTest extends Sentences {
 
     private void count() {
         part("Promise 38");
-        sentence("How many: 0 LETTERS, 1 LENGTH, 2 SIZE, 3 WORDS of THE BOOK, 4 letters of THE STRIP, 5 bytes on THE TAPE, 6 of THE PAPER, 7 ROWS of the PLAN, 8 SWAPS. BAD.", () -> {
+        sentence("How many: 0 LETTERS, 1 LENGTH, 2 SIZE, 3 WORDS of THE BOOK, 4 letters of THE STRIP, 5 bytes on THE TAPE, 6 of THE PAPER, 7 ROWS of the PLAN, 8 SWAPS.", () -> {
             CommaFreeBooks x = made(3, 2, 1, 2);
             cast(x, "abc");
             feed(x, "abca");
@@ -947,10 +1162,13 @@ public final class BoundaryTest extends Sentences {
                 x.plan(0, 0);
             }
             dueCounts("of each", x, 3, 2, 9, 2, 3, 4, 5, 6, 12);
-            dueFor("count", x::count, BAD, -1, -2, 9, 10);
-            dueForFar("count", x::count, BAD);
             due("SWAPS of 2", made(2, 1).count(8), 4);
             due("SWAPS of 4", made(4, 1).count(8), 48);
+        });
+        sentence("8 SWAPS. BAD.", () -> {
+            CommaFreeBooks x = made(3, 2, 1, 2);
+            dueFor("count", x::count, BAD, -1, -2, 9, 10);
+            dueForFar("count", x::count, BAD);
         });
     }
 
