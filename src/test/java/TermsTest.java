@@ -1,4 +1,5 @@
 import java.io.IOException;
+import java.util.Arrays;
 
 /** The sentences of 'Terms', part 1 to 3, that name a boundary case. */
 public final class TermsTest extends Sentences {
@@ -9,6 +10,19 @@ public final class TermsTest extends Sentences {
     /** Those of SIZE 32 at most: letters, length, how many greatest books, how many words each, how many kinds. */
     private static final int[][] SMALL = {{2, 1, 1, 2, 1}, {2, 2, 2, 1, 1}, {2, 3, 8, 2, 3}, {2, 4, 28, 3, 8},
         {2, 5, 86, 6, 25}, {3, 1, 1, 3, 1}, {3, 2, 6, 3, 1}, {3, 3, 42, 8, 5}, {4, 1, 1, 4, 1}, {4, 2, 36, 5, 2}};
+
+    /** Letters, length, DELAY, and the words of a book: each found by going through all rows of letters. */
+    private static final int[][] DELAYS = {
+        {2, 2, NOT, 0, 1, 2, 3}, {2, 2, 1, 2}, {2, 3, NOT, 0, 2, 6, 7}, {2, 3, 2, 2}, {2, 3, 3, 1, 5}, {2, 3, 4, 3, 4},
+        {2, 4, NOT, 10, 12, 15}, {2, 4, 2, 3}, {2, 4, 3, 13}, {2, 4, 3, 1, 7}, {2, 4, 4, 1, 9}, {2, 4, 5, 3, 8},
+        {2, 4, 6, 2, 3, 7}, {2, 4, 7, 1, 11, 12}, {2, 4, 8, 4, 9}, {2, 4, 9, 2, 9, 13}, {2, 4, 10, 7, 8, 12},
+        {2, 5, NOT, 5, 11, 22}, {2, 5, 3, 28}, {2, 5, 4, 8, 14}, {2, 5, 5, 1, 5, 23}, {2, 5, 6, 6, 28},
+        {2, 5, 7, 3, 20, 25}, {2, 5, 8, 6, 7, 9}, {2, 5, 8, 10, 16, 24}, {2, 5, 9, 4, 6, 19},
+        {2, 5, 10, 19, 20, 23, 26}, {2, 5, 11, 8, 17, 26}, {2, 5, 12, 6, 8, 27},
+        {3, 2, NOT, 2, 4}, {3, 2, 1, 3}, {3, 2, 2, 5, 6}, {3, 3, NOT, 4, 8, 10}, {3, 3, 1, 7}, {3, 3, 2, 14},
+        {3, 3, 3, 6, 9}, {3, 3, 3, 1, 22, 24}, {3, 3, 3, 2, 5, 12}, {3, 3, 4, 6, 7, 14}, {3, 3, 5, 4, 14, 25},
+        {3, 3, 6, 5, 12, 17, 20}, {3, 3, 7, 6, 11, 22}, {3, 3, 8, 1, 15, 18, 25}, {3, 3, 10, 8, 11, 15, 25},
+        {4, 2, NOT, 10}, {4, 2, 1, 11}, {4, 2, 2, 3, 4, 6, 7}, {4, 2, 3, 1, 7, 8}};
 
     private interface Each {
         void of(CommaFreeBooks x, int q, int n, int size);
@@ -147,6 +161,11 @@ public final class TermsTest extends Sentences {
             // ab bc ca: bc in ab ca, ca in bc ab, ab in ca bc; the first v with which it does is the last word
             dueClash("of ab bc ca, the third v", made(3, 2, 1, 5, 6), 1, 6, 1, 5);
             dueClash("of ab cc, the second u", made(3, 2, 1, 8), 8, 8, 1, 8);
+            // abaa hides in abaa baaa too, but baaa has gone
+            CommaFreeBooks gone = made(2, 4, 4, 5, 8);
+            dueClash("of abaa abab baaa", gone, 4, 4, 1, 8);
+            gone.drop(8);
+            dueClash("of abaa abab, when baaa has gone", gone, 5, 4, 2, 5);
             dueClash("of abcd dddd, the last place", made(4, 4, 27, 255), 27, 255, 3, 255);
         });
     }
@@ -415,6 +434,10 @@ public final class TermsTest extends Sentences {
         sentence("DELAY (SIZE 32 at most)", () -> each((x, q, n, size) ->
             due("delay() of SIZE " + size, x.delay(), size > 32 ? STATE : 1)));
         sentence("the least k (1 .. 12) such that for no row of k letters two OFFSETS are POSSIBLE", () -> {
+            for (int[] d : DELAYS) {
+                int[] words = Arrays.copyOfRange(d, 3, d.length);
+                due("that of " + Arrays.toString(d), made(d[0], d[1], words).delay(), d[2]);
+            }
             due("1", made(2, 2, 1).delay(), 1);
             due("2", made(2, 3, 1).delay(), 2);
             due("11", made(2, 5, 3, 9, 26).delay(), 11);
@@ -775,7 +798,7 @@ public final class TermsTest extends Sentences {
 
     private void dueJudged(CommaFreeBooks x, int place, int... list) {
         row(x, 2, list);
-        due("judge of " + java.util.Arrays.toString(list), x.judge(2), place);
+        due("judge of " + Arrays.toString(list), x.judge(2), place);
     }
 
     private void image() {
