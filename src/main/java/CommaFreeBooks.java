@@ -956,7 +956,7 @@ public final class CommaFreeBooks {
         static int ends(Book book) {
             int least = 1;
             for (int r = 0; r < book.alphabet.length; r++) {
-                for (int s = r + 1; s < book.alphabet.length; s++) {
+                for (int s = r + 1; s < book.alphabet.length && least <= MOST; s++) {
                     least = Math.max(least, endsFor(book, r, s));
                 }
             }
